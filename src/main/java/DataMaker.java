@@ -349,6 +349,8 @@ public final class DataMaker {
         int constructors;
         final int[] owners;
         final int[] parameters;
+        /** For each constructor and place, how many parameters from there on are types. */
+        final int[] typesAhead;
         final int[] conditions;
 
         Grammar() {
@@ -358,6 +360,7 @@ public final class DataMaker {
             constructors = 0;
             owners = new int[MOST_CONSTRUCTORS];
             parameters = new int[MOST_CONSTRUCTORS * MOST_PARAMETERS];
+            typesAhead = new int[MOST_CONSTRUCTORS * MOST_PARAMETERS];
             conditions = new int[MOST_CONSTRUCTORS];
         }
 
@@ -391,6 +394,9 @@ public final class DataMaker {
             parameters[start] = first;
             parameters[start + 1] = second;
             parameters[start + 2] = third;
+            typesAhead[start + 2] = hasType(third) ? 1 : 0;
+            typesAhead[start + 1] = typesAhead[start + 2] + (hasType(second) ? 1 : 0);
+            typesAhead[start] = typesAhead[start + 1] + (hasType(first) ? 1 : 0);
             conditions[constructors] = condition;
             constructors++;
         }
@@ -412,13 +418,10 @@ public final class DataMaker {
 
         /** How many parameters, from a place on, are types. */
         int typesFrom(int constructor, int place) {
-            int found = 0;
-            for (int next = place; next < MOST_PARAMETERS; next++) {
-                if (hasType(parameter(constructor, next))) {
-                    found++;
-                }
+            if (!hasConstructor(constructor) || place < 0 || place >= MOST_PARAMETERS) {
+                return 0;
             }
-            return found;
+            return typesAhead[constructor * MOST_PARAMETERS + place];
         }
     }
 
@@ -472,7 +475,7 @@ public final class DataMaker {
             rank = other.rank;
             constructor = other.constructor;
             arguments = other.arguments;
-            for (int place = 0; place < MOST_PARAMETERS; place++) {
+            for (int place = 0; place < arguments && place < MOST_PARAMETERS; place++) {
                 numbers[place] = other.numbers[place];
                 parts[place] = other.parts[place];
             }
@@ -547,6 +550,20 @@ public final class DataMaker {
                     return intSum % 2 == 0;
                 default:
                     return true;
+            }
+        }
+
+        /** Whether a condition is surely false if a part comes next: spares making most wrong values. */
+        boolean clashesWith(Value part, int condition) {
+            switch (condition) {
+                case ORDER:
+                    return intCount > 0 && part.intCount > 0 && lastInt >= part.firstInt;
+                case LEVEL:
+                    return lowestPart > 0 && part.height != lowestPart;
+                case BALANCE:
+                    return lowestPart > 0 && Math.abs(part.height - lowestPart) > 1;
+                default:
+                    return false;
             }
         }
 
@@ -723,12 +740,16 @@ public final class DataMaker {
         }
 
         private void extendByParts(Value beginning, int type, int left, int wanted) {
+            int condition = grammar.conditionOf(beginning.constructor);
             int leastSize = wanted == 1 ? left : 1;
             int end = upTo(type, left - (wanted - 1));
             for (int rank = upTo(type, leastSize - 1); rank < end && !overfull; rank++) {
                 Value part = valueAt(type, rank);
+                if (part == null || beginning.clashesWith(part, condition)) {
+                    continue;
+                }
                 Value longer = copyToExtend(beginning);
-                if (part != null && longer != null) {
+                if (longer != null) {
                     longer.addPart(part);
                     extend(longer, left - part.size);
                 }
@@ -822,8 +843,11 @@ public final class DataMaker {
         private boolean parseArgument(Value draft, int parameter) {
             if (parameter == INT) {
                 int number = next();
+                if (number < grammar.low || number > grammar.high) {
+                    return false;
+                }
                 draft.addNumber(number);
-                return number >= grammar.low && number <= grammar.high;
+                return true;
             }
             Value part = parseValue(parameter);
             if (part == null) {

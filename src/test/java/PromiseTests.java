@@ -397,6 +397,12 @@ public final class PromiseTests {
         due("size 8 beyond horizon 5", NO_STATE, () -> x.read(0));
         tellAll(x, 101, 0, 101, 0, 101, 0, 101, 0, 101, 0, 101, 0, 101, 0, 101, 0, 100);
         due("size 9", -1, () -> x.read(0));
+        tellAll(x, 101, 0, 101, 0, 101, 3, 101, 0, 101, 0, 100);
+        due("a number out of the range beyond the horizon", -1, () -> x.read(0));
+        tellAll(x, 101, 0, 101, 0, 101, 0, 101, 0, 101, 0);
+        due("too short beyond the horizon", -1, () -> x.read(0));
+        tellAll(x, 102, 101, 0, 100, 101, 0, 100, 101, 0, 100);
+        due("no such constructor beyond the horizon", -1, () -> x.read(0));
         readConditions();
     }
 
@@ -486,6 +492,9 @@ public final class PromiseTests {
         DataMaker y = trees(0);
         y.select(0, 3);
         due("mean without numbers", 0.0, y::mean);
+        DataMaker z = lists(0);
+        z.select(0, 9);
+        due("mean of 1 2, one of them within", 1.5, z::mean);
     }
 
     private static void promise19Holds() {

@@ -28,7 +28,7 @@ public final class RulesTests {
     private static final String[] UNWANTED = {
         "->", "::", "\\btry\\b", "\\bcatch\\b", "\\bfinally\\b", "\\bsynchronized\\b", "\\bassert\\b",
         "\\bSystem\\.(?!arraycopy)", "\\bRandom\\b", "\\bThread\\b", "Exact\\(", "\\bprotected\\b",
-        "\\bpackage\\b", "\\.equals\\(", "\\.hashCode\\(", "\\.toString\\(", "\\bMath\\.\\w+\\([^)]*\\."};
+        "\\bpackage\\b", "\\.equals\\(", "\\.hashCode\\(", "\\.toString\\(", "\\bMath\\.\\w+\\([^)]*(\\d\\.|double)"};
 
     private static int wrong = 0;
 
