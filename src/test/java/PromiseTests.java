@@ -1,15 +1,9 @@
 import java.util.ArrayList;
 import java.util.Arrays;
 import java.util.List;
-import java.util.concurrent.Callable;
 
 /** For each promise of the document: ordinary inputs, the edges that it names, and wrong inputs. */
-public final class PromiseTests {
-    private static final int INT = 9;
-    private static final int NO = -1;
-    private static int wrong = 0;
-    private static int checks = 0;
-
+public final class PromiseTests extends Checks {
     public static void main(String[] args) {
         promise1NewObject();
         promise2SetRange();
@@ -37,108 +31,13 @@ public final class PromiseTests {
         order();
         conditionsWithin();
         selectionEnds();
-        System.out.println(checks + " checks, " + wrong + " answers are not as due");
-        if (wrong != 0) {
-            System.exit(1);
-        }
-    }
-
-    // ---- what the tests are made of
-
-    private static void due(String what, Object want, Callable<?> call) {
-        checks++;
-        Object got;
-        try {
-            got = call.call();
-        } catch (Exception e) {
-            got = e.getClass();
-        }
-        if (!want.equals(got)) {
-            wrong++;
-            System.out.println(what + " answered " + got + ", due is " + want);
-        }
-    }
-
-    private static final Class<?> NO_INDEX = IndexOutOfBoundsException.class;
-    private static final Class<?> NO_ARGUMENT = IllegalArgumentException.class;
-    private static final Class<?> NO_STATE = IllegalStateException.class;
-    private static final Class<?> NO_ELEMENT = java.util.NoSuchElementException.class;
-
-    /** The last numbers that wrap around or are far off. */
-    private static final int[] FAR = {Integer.MIN_VALUE, Integer.MAX_VALUE};
-
-    private static List<Integer> codeOf(DataMaker x) {
-        List<Integer> code = new ArrayList<>();
-        for (int i = 0; i < x.length(); i++) {
-            code.add(x.code(i));
-        }
-        return code;
-    }
-
-    private static List<Integer> codeAt(DataMaker x, int type, int number) {
-        x.select(type, number);
-        return codeOf(x);
-    }
-
-    private static List<Integer> reductionsOf(DataMaker x) {
-        List<Integer> all = new ArrayList<>();
-        for (int i = 0; i < x.reductionCount(); i++) {
-            all.add(x.reduction(i));
-        }
-        return all;
-    }
-
-    private static void tellAll(DataMaker x, int... codes) {
-        for (int code : codes) {
-            x.tell(code);
-        }
-    }
-
-    private static long digestOf(long... numbers) {
-        long d = 137;
-        for (long x : numbers) {
-            d = d * 31 + x;
-        }
-        return d;
-    }
-
-    /** Lists of numbers: 0 nil, 1 cons(INT, list) with a condition. */
-    private static DataMaker lists(int condition) {
-        DataMaker x = new DataMaker();
-        x.addType();
-        x.addConstructor(0, NO, NO, NO, 0);
-        x.addConstructor(0, INT, 0, NO, condition);
-        return x;
-    }
-
-    /** Trees without numbers: 0 leaf, 1 fork(tree, tree) with a condition. */
-    private static DataMaker trees(int condition) {
-        DataMaker x = new DataMaker();
-        x.addType();
-        x.addConstructor(0, NO, NO, NO, 0);
-        x.addConstructor(0, 0, 0, NO, condition);
-        return x;
-    }
-
-    /** One constructor with three numbers and a condition. */
-    private static DataMaker triples(int condition) {
-        DataMaker x = new DataMaker();
-        x.addType();
-        x.addConstructor(0, INT, INT, INT, condition);
-        return x;
-    }
-
-    /** 432 values of size 1: the horizon is 0. */
-    private static DataMaker tooMany() {
-        DataMaker x = triples(0);
-        x.addConstructor(0, INT, INT, INT, 0);
-        x.setRange(0, 5);
-        return x;
+        finish("the promises");
     }
 
     // ---- the promises
 
     private static void promise1NewObject() {
+        about(1, "a new object");
         DataMaker x = new DataMaker();
         due("typeCount of a new object", 0, x::typeCount);
         due("horizon of a new object", 8, x::horizon);
@@ -151,6 +50,7 @@ public final class PromiseTests {
     }
 
     private static void promise2SetRange() {
+        about(2, "setRange");
         DataMaker x = lists(0);
         due("setRange(0, 5)", true, () -> x.setRange(0, 5));
         due("setRange(0, 5) again", false, () -> x.setRange(0, 5));
@@ -163,13 +63,14 @@ public final class PromiseTests {
         due("setRange(-1, 2)", NO_ARGUMENT, () -> x.setRange(-1, 2));
         due("setRange(0, 6)", NO_ARGUMENT, () -> x.setRange(0, 6));
         due("setRange(3, 2)", NO_ARGUMENT, () -> x.setRange(3, 2));
-        due("setRange(least, greatest)", NO_ARGUMENT, () -> x.setRange(FAR[0], FAR[1]));
+        due("setRange(least, greatest)", NO_ARGUMENT, () -> x.setRange(LEAST, GREATEST));
         due("the range behind wrong ones", false, () -> x.setRange(1, 3));
         due("the first number of the range", List.of(101, 1, 100), () -> codeAt(x, 0, 1));
         due("the last number of the range", List.of(101, 3, 100), () -> codeAt(x, 0, 3));
     }
 
     private static void promise3AddType() {
+        about(3, "addType");
         DataMaker x = new DataMaker();
         for (int type = 0; type < 4; type++) {
             due("addType", type, x::addType);
@@ -180,6 +81,7 @@ public final class PromiseTests {
     }
 
     private static void promise4AddConstructor() {
+        about(4, "addConstructor");
         DataMaker x = new DataMaker();
         due("addConstructor without a type", NO_INDEX, () -> x.addConstructor(0, NO, NO, NO, 0));
         x.addType();
@@ -211,6 +113,7 @@ public final class PromiseTests {
     }
 
     private static void promise5TypeCount() {
+        about(5, "typeCount");
         DataMaker x = new DataMaker();
         x.addType();
         due("typeCount", 1, x::typeCount);
@@ -219,6 +122,7 @@ public final class PromiseTests {
     }
 
     private static void promise6Horizon() {
+        about(6, "horizon");
         due("lists of 0 to 2: 1 + 3 + 9 + 27 + 81 = 121, then 364", 5, () -> lists(0).horizon());
         due("ascending lists", 8, () -> lists(1).horizon());
         due("432 values of size 1", 0, () -> tooMany().horizon());
@@ -243,6 +147,7 @@ public final class PromiseTests {
     }
 
     private static void promise7Count() {
+        about(7, "count");
         DataMaker x = lists(0);
         due("count(0, 1)", 1, () -> x.count(0, 1));
         due("count(0, 4)", 27, () -> x.count(0, 4));
@@ -253,7 +158,7 @@ public final class PromiseTests {
         due("count(0, 0)", NO_ARGUMENT, () -> x.count(0, 0));
         due("count(1, 0)", NO_INDEX, () -> x.count(1, 0));
         due("count(-1, 1)", NO_INDEX, () -> x.count(-1, 1));
-        due("count of the greatest", NO_ARGUMENT, () -> x.count(0, FAR[1]));
+        due("count of the greatest", NO_ARGUMENT, () -> x.count(0, GREATEST));
         due("count with horizon 0", NO_STATE, () -> tooMany().count(0, 1));
         due("count of another type with horizon 0", NO_STATE, () -> {
             DataMaker y = tooMany();
@@ -266,6 +171,7 @@ public final class PromiseTests {
     }
 
     private static void promise8Total() {
+        about(8, "total");
         DataMaker x = lists(0);
         due("total(0, 1)", 1, () -> x.total(0, 1));
         due("total(0, 5)", 121, () -> x.total(0, 5));
@@ -277,6 +183,7 @@ public final class PromiseTests {
     }
 
     private static void promise9FirstAgainst() {
+        about(9, "firstAgainst");
         DataMaker x = lists(0);
         due("not ascending: 0 0", 4, () -> x.firstAgainst(0, 1, 5));
         due("no such of size 2", -1, () -> x.firstAgainst(0, 1, 2));
@@ -305,6 +212,7 @@ public final class PromiseTests {
     }
 
     private static void promise10Select() {
+        about(10, "select");
         DataMaker x = lists(0);
         due("select(0, 0)", 1, () -> x.select(0, 0));
         due("select(0, 3)", 2, () -> x.select(0, 3));
@@ -312,8 +220,8 @@ public final class PromiseTests {
         due("its code", List.of(101, 2, 101, 2, 101, 2, 101, 2, 100), () -> codeOf(x));
         due("beyond the horizon", NO_STATE, () -> x.select(0, 121));
         due("negative", NO_INDEX, () -> x.select(0, -1));
-        due("least", NO_INDEX, () -> x.select(0, FAR[0]));
-        due("greatest", NO_STATE, () -> x.select(0, FAR[1]));
+        due("least", NO_INDEX, () -> x.select(0, LEAST));
+        due("greatest", NO_STATE, () -> x.select(0, GREATEST));
         due("no such type", NO_INDEX, () -> x.select(1, 0));
         due("the selection stays", 120, x::number);
         DataMaker y = lists(1);
@@ -324,6 +232,7 @@ public final class PromiseTests {
     }
 
     private static void promise11Draw() {
+        about(11, "draw");
         DataMaker x = lists(0);
         long[] seeds = {0, 1, -1, 7, 12345, Long.MIN_VALUE, Long.MAX_VALUE, 6364136223846793005L};
         java.math.BigInteger wrap = java.math.BigInteger.ONE.shiftLeft(64);
@@ -346,8 +255,9 @@ public final class PromiseTests {
     }
 
     private static void promise12Tell() {
+        about(12, "tell");
         DataMaker x = lists(0);
-        int[] bad = {-1, 6, 99, 106, 9, FAR[0], FAR[1]};
+        int[] bad = {-1, 6, 99, 106, 9, LEAST, GREATEST};
         for (int code : bad) {
             due("tell(" + code + ")", NO_ARGUMENT, () -> x.tell(code));
         }
@@ -367,6 +277,7 @@ public final class PromiseTests {
     }
 
     private static void promise13Read() {
+        about(13, "read");
         DataMaker x = lists(0);
         due("nothing told", -1, () -> x.read(0));
         tellAll(x, 101, 1, 101, 2, 100);
@@ -428,6 +339,7 @@ public final class PromiseTests {
     }
 
     private static void promise14Length() {
+        about(14, "length");
         DataMaker x = lists(0);
         due("length of none", NO_STATE, x::length);
         x.select(0, 0);
@@ -446,19 +358,21 @@ public final class PromiseTests {
     }
 
     private static void promise15Code() {
+        about(15, "code");
         DataMaker x = lists(0);
         due("code of none", NO_STATE, () -> x.code(-1));
         x.select(0, 9);
         due("code", List.of(101, 1, 101, 2, 100), () -> codeOf(x));
         due("code(5)", NO_INDEX, () -> x.code(5));
         due("code(-1)", NO_INDEX, () -> x.code(-1));
-        due("code(greatest)", NO_INDEX, () -> x.code(FAR[1]));
-        due("code(least)", NO_INDEX, () -> x.code(FAR[0]));
+        due("code(greatest)", NO_INDEX, () -> x.code(GREATEST));
+        due("code(least)", NO_INDEX, () -> x.code(LEAST));
         x.select(0, 0);
         due("code(1) behind a longer one", NO_INDEX, () -> x.code(1));
     }
 
     private static void promise16Number() {
+        about(16, "number");
         DataMaker x = lists(0);
         due("number of none", NO_STATE, x::number);
         x.addType();
@@ -469,6 +383,7 @@ public final class PromiseTests {
     }
 
     private static void promise17Height() {
+        about(17, "height");
         DataMaker x = trees(0);
         due("height of none", NO_STATE, x::height);
         x.select(0, 0);
@@ -481,6 +396,7 @@ public final class PromiseTests {
     }
 
     private static void promise18Mean() {
+        about(18, "mean");
         DataMaker x = triples(0);
         due("mean of none", NO_STATE, x::mean);
         x.select(0, 5);
@@ -498,6 +414,7 @@ public final class PromiseTests {
     }
 
     private static void promise19Holds() {
+        about(19, "holds");
         DataMaker x = triples(0);
         due("holds of none", NO_STATE, () -> x.holds(0));
         x.select(0, 5);
@@ -540,6 +457,7 @@ public final class PromiseTests {
     }
 
     private static void promise20ReductionCount() {
+        about(20, "reductionCount");
         DataMaker x = lists(0);
         due("reductionCount of none", NO_STATE, x::reductionCount);
         x.select(0, 0);
@@ -556,14 +474,15 @@ public final class PromiseTests {
     }
 
     private static void promise21Reduction() {
+        about(21, "reduction");
         DataMaker x = lists(0);
         due("reduction of none", NO_STATE, () -> x.reduction(-1));
         x.select(0, 12);
         due("2 2", List.of(3, 0, 6, 9, 10, 11), () -> reductionsOf(x));
         due("reduction(6)", NO_INDEX, () -> x.reduction(6));
         due("reduction(-1)", NO_INDEX, () -> x.reduction(-1));
-        due("reduction(greatest)", NO_INDEX, () -> x.reduction(FAR[1]));
-        due("reduction(least)", NO_INDEX, () -> x.reduction(FAR[0]));
+        due("reduction(greatest)", NO_INDEX, () -> x.reduction(GREATEST));
+        due("reduction(least)", NO_INDEX, () -> x.reduction(LEAST));
         due("the selection stays", 12, x::number);
         DataMaker y = lists(1);
         y.setRange(0, 5);
@@ -595,6 +514,7 @@ public final class PromiseTests {
     }
 
     private static void promise22Reduce() {
+        about(22, "reduce");
         DataMaker x = lists(0);
         due("reduce of none", NO_STATE, () -> x.reduce(0));
         x.select(0, 12);
@@ -625,6 +545,7 @@ public final class PromiseTests {
     }
 
     private static void promise23Digest() {
+        about(23, "digest");
         DataMaker x = new DataMaker();
         x.setRange(1, 4);
         x.addType();
@@ -643,6 +564,7 @@ public final class PromiseTests {
     // ---- what the description says of all of them
 
     private static void order() {
+        about(10, "the order of the values");
         DataMaker x = new DataMaker();
         x.addType();
         x.addType();
@@ -661,6 +583,7 @@ public final class PromiseTests {
     }
 
     private static void conditionsWithin() {
+        about(7, "conditions of values in values");
         DataMaker x = new DataMaker();
         x.addType();
         x.addConstructor(0, INT, INT, NO, 1);
@@ -680,6 +603,7 @@ public final class PromiseTests {
     }
 
     private static void selectionEnds() {
+        about(16, "where the selection ends");
         DataMaker x = lists(0);
         x.select(0, 2);
         due("a wrong setRange leaves the selection", NO_ARGUMENT, () -> x.setRange(0, 6));
