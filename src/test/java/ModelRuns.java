@@ -15,6 +15,8 @@ public final class ModelRuns {
 
     private final Random random;
     private final long seed;
+    /** One argument of so many is an edge or beyond it; in every fourth run nearly each call has one. */
+    private final int strangeOneIn;
     private final DataMaker maker = new DataMaker();
     private final PlainModel model = new PlainModel();
     private final List<String> log = new ArrayList<>();
@@ -22,6 +24,7 @@ public final class ModelRuns {
 
     private ModelRuns(long seed) {
         this.seed = seed;
+        this.strangeOneIn = seed % 4 == 0 ? 5 : 25;
         this.random = new Random(seed);
     }
 
@@ -54,8 +57,8 @@ public final class ModelRuns {
     }
 
     private int odd(int usual) {
-        int[] strange = {-1, -2, 0, 4, 6, 8, 9, 10, 99, 106, 300, Integer.MIN_VALUE, Integer.MAX_VALUE};
-        return oneOf(25) ? strange[below(strange.length)] : usual;
+        int[] strange = {-1, -2, 0, 1, 4, 5, 6, 8, 9, 10, 99, 105, 106, 299, 300, Integer.MIN_VALUE, Integer.MAX_VALUE};
+        return oneOf(strangeOneIn) ? strange[below(strange.length)] : usual;
     }
 
     private int type() {

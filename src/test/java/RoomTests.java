@@ -36,8 +36,8 @@ public final class RoomTests {
         x.addConstructor(0, 0, 9, 0, 1);
         x.addConstructor(0, 9, 9, 0, 1);
         long sum = 0;
-        for (int call = 0; call < CALLS; call += 8) {
-            sum += x.setRange(0, call % 16 == 0 ? 5 : 4) ? 1 : 0;
+        for (int call = 4; call + 8 <= CALLS; call += 8) {
+            sum += x.setRange(0, call % 16 == 4 ? 5 : 4) ? 1 : 0;
             sum += x.horizon();
             sum += x.draw(0, 1, call);
             sum += x.reductionCount();

@@ -19,6 +19,7 @@ public final class SelectedEdgeTests extends Checks {
         reductionsWithin();
         reductionsByNumbers();
         reductionsKeepConditions();
+        reductionsOfNewTypes();
         reductionRefuses();
         reduceStaysWhereItIs();
         reduceGoesOn();
@@ -379,6 +380,27 @@ public final class SelectedEdgeTests extends Checks {
         readAll(heaps, 0, 100, 1, 2, 1);
         due("1 2 1 heaped: 0 2 1 and 1 1 1", List.of(List.of(100, 0, 2, 1), List.of(100, 1, 1, 1)),
                 () -> reductionCodes(heaps, 0));
+    }
+
+    private static void reductionsOfNewTypes() {
+        says(21, "The reductions of a value are values of the same type");
+        DataMaker x = trees(0);
+        x.select(0, 1);
+        due("a fork, number 1", List.of(0), () -> reductionsOf(x));
+        x.addConstructor(0, NO, NO, NO, 0);
+        x.select(0, 1);
+        due("a second leaf, which is now number 1", List.of(), () -> reductionsOf(x));
+        x.addConstructor(0, 0, NO, NO, 0);
+        x.select(0, 2);
+        due("a leaf in a box, which is now number 2", List.of(0), () -> reductionsOf(x));
+        x.select(0, 3);
+        due("the second leaf in a box", List.of(1), () -> reductionsOf(x));
+        DataMaker y = lists(0);
+        y.select(0, 12);
+        due("2 2 of 0 to 2", 6, y::reductionCount);
+        y.setRange(2, 2);
+        y.select(0, 2);
+        due("2 2 of 2 alone", List.of(1, 0), () -> reductionsOf(y));
     }
 
     private static void reductionRefuses() {

@@ -21,10 +21,12 @@ public final class SelectingEdgeTests extends Checks {
         readOfNothing();
         readOfJustOne();
         readOfWrongNumbers();
+        readOfMissingNumbers();
         readOfSizeEightAndNine();
         readAtTheHorizon();
         readBeyondTheHorizonWithConditions();
         readWithConditions();
+        readAgainAndAgain();
         readRefusesTypes();
         readForgets();
         finish("edges of promises 10 to 13");
@@ -356,6 +358,20 @@ public final class SelectingEdgeTests extends Checks {
         due("the greatest number of the range", 2, () -> readAll(x, 0, 101, 2, 100));
     }
 
+    private static void readOfMissingNumbers() {
+        says(13, "-1 if it is not the code of such a value");
+        DataMaker x = triples(0);
+        due("three numbers are missing", -1, () -> readAll(x, 0, 100));
+        due("two numbers are missing", -1, () -> readAll(x, 0, 100, 0));
+        due("the last number is missing", -1, () -> readAll(x, 0, 100, 0, 0));
+        due("none is missing", 0, () -> readAll(x, 0, 100, 0, 0, 0));
+        due("the last number is missing, and was told before", -1, () -> readAll(x, 0, 100, 0, 0));
+        due("a number more", -1, () -> readAll(x, 0, 100, 0, 0, 0, 0));
+        DataMaker y = tooMany();
+        due("the last number is missing, beyond the horizon", -1, () -> readAll(y, 0, 100, 0, 0));
+        due("a number more, beyond the horizon", -1, () -> readAll(y, 0, 100, 0, 0, 0, 0));
+    }
+
     private static void readOfSizeEightAndNine() {
         says(13, "Reads what was told as the code of a value of a type with a size of at most 8");
         DataMaker x = lists(0);
@@ -399,6 +415,9 @@ public final class SelectingEdgeTests extends Checks {
         says(13, "-1 if it is not the code of such a value");
         due("beyond the horizon, but out of the range", -1, () -> readAll(x, 0, listCode(2, 2, 2, 2, 3)));
         due("beyond the horizon, but too short", -1, () -> readAll(x, 0, 101, 0, 101, 0, 101, 0, 101, 0, 101, 0));
+        due("beyond the horizon, but with a constructor that is not there", -1,
+                () -> readAll(x, 0, 102, 101, 0, 100, 101, 0, 100, 101, 0, 100));
+        due("the same within", -1, () -> readAll(x, 0, 101, 0, 102, 101, 0, 100, 101, 0, 100, 101, 0, 100));
         due("beyond horizon 0, but out of the range", -1, () -> {
             DataMaker y = tooMany();
             y.setRange(0, 4);
@@ -428,6 +447,10 @@ public final class SelectingEdgeTests extends Checks {
         due("not level", -1, () -> readAll(unknownHeaps(3), 1, 103, 102, 100, 1, 2, 1, 1, 101, 0, 0, 0));
         due("not even", -1, () -> readAll(unknownHeaps(5), 1, 103, 102, 100, 1, 2, 1, 1, 101, 0, 0, 0));
         due("not in order", -1, () -> readAll(unknownHeaps(1), 1, 103, 102, 100, 1, 2, 1, 1, 101, 0, 0, 0));
+        due("a heap, read as a triple", -1, () -> readAll(unknownHeaps(4), 0, 102, 100, 1, 2, 1, 1));
+        due("a triple, read as a heap", -1, () -> readAll(unknownHeaps(4), 1, 100, 1, 2, 1));
+        due("a triple where a heap is due", -1,
+                () -> readAll(unknownHeaps(4), 1, 103, 100, 1, 2, 1, 101, 0, 0, 0));
         due("heaps differ by 2 from a triple", -1, () -> readAll(unknownHeaps(4), 1,
                 103, 103, 102, 100, 1, 2, 1, 1, 101, 0, 0, 0, 101, 0, 0, 0));
     }
@@ -448,6 +471,34 @@ public final class SelectingEdgeTests extends Checks {
         z.addConstructor(1, 1, 0, INT, 0);
         due("an even pair", true, () -> readAll(z, 1, 103, 102, 1, 1, 100, 1) >= 0);
         due("an odd pair within", -1, () -> readAll(z, 1, 103, 102, 1, 0, 100, 1));
+    }
+
+    private static void readAgainAndAgain() {
+        says(13, "What was told is forgotten");
+        DataMaker level = trees(3);
+        DataMaker balanced = trees(4);
+        for (int i = 0; i < 2; i++) {
+            due("a leaf", 0, () -> readAll(level, 0, 100));
+            due("a fork of leaves", 1, () -> readAll(level, 0, 101, 100, 100));
+            due("a fork of forks", 2, () -> readAll(level, 0, 101, 101, 100, 100, 101, 100, 100));
+            due("a balanced fork of leaves", 1, () -> readAll(balanced, 0, 101, 100, 100));
+            due("a balanced fork of forks", 4, () -> readAll(balanced, 0, 101, 101, 100, 100, 101, 100, 100));
+        }
+        int[][] triples = {{0, 1, 2}, {0, 0, 0}, {1, 2, 1}, {2, 1, 0}, {0, 2, 2}, {1, 1, 1}, {2, 2, 2}, {1, 0, 1}};
+        for (int c = 1; c <= 5; c++) {
+            DataMaker x = triples(c);
+            DataMaker free = triples(0);
+            int condition = c;
+            for (int[] t : triples) {
+                due("the condition " + c + " of a triple, behind others", holdsOf(free, condition, t),
+                        () -> readAll(x, 0, 100, t[0], t[1], t[2]) >= 0);
+            }
+        }
+    }
+
+    private static boolean holdsOf(DataMaker free, int property, int[] triple) {
+        free.select(0, 9 * triple[0] + 3 * triple[1] + triple[2]);
+        return free.holds(property);
     }
 
     private static void readRefusesTypes() {
