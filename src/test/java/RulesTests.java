@@ -1,4 +1,5 @@
 import java.lang.reflect.Constructor;
+import java.lang.reflect.Executable;
 import java.lang.reflect.Field;
 import java.lang.reflect.Method;
 import java.lang.reflect.Modifier;
@@ -13,17 +14,13 @@ import java.util.regex.Pattern;
 import java.util.stream.Collectors;
 
 /**
- * What can be seen from outside of the rules of LANGUAGE.md: the face, the sizes of classes and
- * methods, and words that are not to be used. The argument is the path of DataMaker.java.
+ * What can be seen from outside of the rules of LANGUAGE.md: the face, which must be the one of the
+ * document with the exceptions that it names, the sizes of classes and methods, and words that are
+ * not to be used. The arguments are the paths of DataMaker.java and of DOC.md.
  */
 public final class RulesTests {
-    private static final String[] FACE = {
-        "boolean setRange(int,int)", "int addType()", "int addConstructor(int,int,int,int,int)",
-        "int typeCount()", "int horizon()", "int count(int,int)", "int total(int,int)",
-        "int firstAgainst(int,int,int)", "int select(int,int)", "int draw(int,int,long)",
-        "int tell(int)", "int read(int)", "int length()", "int code(int)", "int number()",
-        "int height()", "double mean()", "boolean holds(int)", "int reductionCount()",
-        "int reduction(int)", "int reduce(int)", "long digest()"};
+    private static final String EXCEPTIONS = "(IllegalState|IllegalArgument|IndexOutOfBounds|Arithmetic"
+            + "|UnsupportedOperation|NoSuchElement|Runtime)Exception";
 
     private static final String[] UNWANTED = {
         "->", "::", "\\btry\\b", "\\bcatch\\b", "\\bfinally\\b", "\\bsynchronized\\b", "\\bassert\\b",
@@ -33,9 +30,9 @@ public final class RulesTests {
     private static int wrong = 0;
 
     public static void main(String[] args) throws Exception {
-        face();
-        insideClasses();
         String source = Files.readString(Path.of(args[0]));
+        face(Files.readString(Path.of(args[1])));
+        insideClasses();
         words(source);
         methodLengths(source);
         System.out.println("rules: " + wrong + " are broken");
@@ -51,23 +48,49 @@ public final class RulesTests {
         }
     }
 
-    private static void face() {
+    /** The members in the document's face, without the names of parameters and packages. */
+    private static TreeSet<String> documentFace(String document) {
+        TreeSet<String> members = new TreeSet<>();
+        Matcher block = Pattern.compile("(?s)## The public face\\s+```java\n(.*?)```").matcher(document);
+        if (block.find()) {
+            Matcher member = Pattern.compile("(?m)^    public (.*);$").matcher(block.group(1));
+            while (member.find()) {
+                members.add(member.group(1).replace("java.util.", "").replaceAll("(int|long) \\w+(?=[,)])", "$1"));
+            }
+        }
+        return members;
+    }
+
+    private static String names(Class<?>[] types) {
+        return Arrays.stream(types).map(Class::getSimpleName).collect(Collectors.joining(", "));
+    }
+
+    private static String described(String name, Executable member) {
+        String exceptions = names(member.getExceptionTypes());
+        return name + "(" + names(member.getParameterTypes()) + ")"
+                + (exceptions.isEmpty() ? "" : " throws " + exceptions);
+    }
+
+    private static void face(String document) {
         int type = DataMaker.class.getModifiers();
         check(Modifier.isPublic(type) && Modifier.isFinal(type), "DataMaker is public and final");
         TreeSet<String> found = new TreeSet<>();
         for (Method method : DataMaker.class.getDeclaredMethods()) {
             if (Modifier.isPublic(method.getModifiers())) {
-                found.add(method.getReturnType() + " " + method.getName() + "("
-                        + Arrays.stream(method.getParameterTypes()).map(Class::getName)
-                                .collect(Collectors.joining(",")) + ")");
+                check(!Modifier.isStatic(method.getModifiers()), "rule 1, static is " + method);
+                found.add(method.getReturnType() + " " + described(method.getName(), method));
             } else {
                 check(Modifier.isPrivate(method.getModifiers()), "rule 1, the method " + method);
             }
         }
-        check(found.equals(new TreeSet<>(List.of(FACE))), "rule 1, the public methods " + found);
         Constructor<?>[] constructors = DataMaker.class.getDeclaredConstructors();
         check(constructors.length == 1 && constructors[0].getParameterCount() == 0
                 && Modifier.isPublic(constructors[0].getModifiers()), "rule 1, the constructor");
+        for (Constructor<?> constructor : constructors) {
+            found.add(described("DataMaker", constructor));
+        }
+        TreeSet<String> due = documentFace(document);
+        check(!due.isEmpty() && found.equals(due), "the face is " + found + ", due is " + due);
         for (Field field : DataMaker.class.getDeclaredFields()) {
             check(Modifier.isPrivate(field.getModifiers()), "rule 1, the field " + field);
         }
@@ -77,8 +100,10 @@ public final class RulesTests {
         List<Class<?>> all = new ArrayList<>(List.of(DataMaker.class.getDeclaredClasses()));
         check(all.size() + 1 <= 12, "rule 11, classes: " + all.size());
         TreeSet<String> publicNames = new TreeSet<>();
-        for (String method : FACE) {
-            publicNames.add(method.substring(method.indexOf(' ') + 1, method.indexOf('(')));
+        for (Method method : DataMaker.class.getDeclaredMethods()) {
+            if (Modifier.isPublic(method.getModifiers())) {
+                publicNames.add(method.getName());
+            }
         }
         all.add(DataMaker.class);
         for (Class<?> one : all) {
@@ -107,6 +132,14 @@ public final class RulesTests {
         for (String word : UNWANTED) {
             Matcher matcher = Pattern.compile(word).matcher(code);
             check(!matcher.find(), "an unwanted word, " + word);
+        }
+        Matcher thrown = Pattern.compile("\\bthrow\\b.*").matcher(code);
+        while (thrown.find()) {
+            check(thrown.group().matches("throw new " + EXCEPTIONS + "\\((\"\")?\\);"), "rule 6, " + thrown.group());
+        }
+        Matcher library = Pattern.compile("\\b(Math|Integer|Long|Arrays|System|String|Double)\\.\\w+").matcher(code);
+        while (library.find()) {
+            check(library.group().equals("Math.abs"), "rule 4, is this allowed: " + library.group());
         }
         Matcher imports = Pattern.compile("import ([^;]*);").matcher(code);
         while (imports.find()) {
